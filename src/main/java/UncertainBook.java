@@ -293,7 +293,6 @@ public final class UncertainBook {
                 counts[input] = count + 1;
             }
             sorts[input] = READ;
-            widths[input] = 0;
             reckonReadings(input);
             return variances[input];
         }
@@ -327,7 +326,7 @@ public final class UncertainBook {
         }
 
         void drawInto(int[] drawn, Chance chance) {
-            for (int input = 0; input < INPUTS && input < drawn.length; input++) {
+            for (int input = 0; input < INPUTS; input++) {
                 drawn[input] = drawOf(input, chance);
             }
         }
@@ -337,20 +336,16 @@ public final class UncertainBook {
             int least = estimates[input] - width;
             switch (sorts[input]) {
                 case EVEN:
-                    return least + chance.below(2 * width + 1);
+                    return least + chance.modulo(2 * width + 1);
                 case PEAK:
-                    return least + chance.below(width + 1) + chance.below(width + 1);
+                    return least + chance.modulo(width + 1) + chance.modulo(width + 1);
                 case ENDS:
-                    return least + 2 * width * chance.below(2);
+                    return least + 2 * width * chance.modulo(2);
                 case READ:
-                    return drawReading(input, chance.below(counts[input]));
+                    return readings[input][chance.modulo(counts[input])];
                 default:
                     return estimates[input];
             }
-        }
-
-        private int drawReading(int input, int number) {
-            return number < MOST_READINGS ? readings[input][number] : estimates[input];
         }
     }
 
@@ -402,7 +397,7 @@ public final class UncertainBook {
         }
 
         private char next() {
-            return at >= 0 && at < length && at < MOST_SIGNS ? signs[at] : NO_SIGN;
+            return at < length ? signs[at] : NO_SIGN;
         }
 
         private int readSum(Formula target, int depth) {
@@ -514,10 +509,13 @@ public final class UncertainBook {
             root = 0;
         }
 
-        /** The part's number in the rows; there is room, each part having a sign of its own. */
+        /** The part's number in the rows; NONE without room, though each part has a sign. */
         int add(int kind, int left, int right, int place) {
             int part = find(kind, left, right);
-            if (part == size && size < MOST_SIGNS) {
+            if (part >= MOST_SIGNS) {
+                return NONE;
+            }
+            if (part == size) {
                 kinds[part] = kind;
                 lefts[part] = left;
                 rights[part] = right;
@@ -830,7 +828,8 @@ public final class UncertainBook {
 
         int x = 1;
 
-        int below(int bound) {
+        /** The next x modulo a bound above 0. */
+        int modulo(int bound) {
             x = (75 * x + 74) % MODULUS;
             return bound > 0 ? x % bound : 0;
         }

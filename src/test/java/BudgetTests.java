@@ -139,7 +139,7 @@ final class BudgetTests {
         wide.shape(4, 0, 1, 2);
         wide.together(0, 1, -1);
         wide.together(2, 3, -1);
-        Check.due("a variance of -1", -1, wide.budget(0, 0));
+        budgetIs(wide, 0, -1, -1, -1, 200, -1);
         Check.due("the least long by -1", Long.MIN_VALUE, wide.contribution(0, 0, true));
         Check.due("another share", -100, wide.contribution(0, 4, true));
     }

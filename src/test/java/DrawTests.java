@@ -9,6 +9,8 @@ final class DrawTests {
         evenDraws();
         peakDraws();
         endsDraws();
+        endsAtTheStatedDoubt();
+        ofTheModelTold();
         readDraws();
         byRisingNumbers();
         fromASquareThatFalls();
@@ -121,6 +123,33 @@ final class DrawTests {
             int off = next(x) % 2 == 0 ? below : above;
             Check.due("ENDS from " + x, Math.abs(off) <= 43 ? 1 : 0, book.draw(0, 1));
         }
+    }
+
+    private static void endsAtTheStatedDoubt() {
+        UncertainBook book = Check.book("a-3", "5-a");
+        book.shape(0, -7, 3, 10);
+        book.table(1, 143);
+        Check.due("all hit that are just as far", 100, book.draw(0, 100));
+        Check.due("the other way round too", 100, book.draw(1, 100));
+        book.table(1, 142);
+        Check.due("none hits that is farther", 0, book.draw(0, 100));
+        Check.due("nor the other way round", 0, book.draw(1, 100));
+    }
+
+    /** What was reckoned for another model, or before a change, does not count. */
+    private static void ofTheModelTold() {
+        UncertainBook book = Check.book("a", "100*a", "b");
+        book.shape(0, 0, 3, 10);
+        Check.due("a stated doubt", 14, book.budget(0, 4));
+        Check.due("a greater one", 1414, book.budget(1, 4));
+        Check.due("of the first one", 20, book.draw(0, 20));
+        Check.due("of the second one", 20, book.draw(1, 20));
+        Check.due("of the third one", 0, book.budget(2, 4));
+        Check.due("of the first one again", 20, book.draw(0, 20));
+        book.shape(0, 0, 3, 0);
+        Check.due("of it without a width", 20, book.draw(0, 20));
+        book.shape(0, 0, 3, 20);
+        Check.due("of it with a greater one", 20, book.draw(0, 20));
     }
 
     private static void readDraws() {

@@ -34,6 +34,7 @@ final class InputTests {
             }
         }
         Check.place("value(0) at first", book, () -> book.value(0));
+        Check.place("model(1) at first", book, () -> book.model(1));
         Check.due("the line at first", 0, book.type(0));
         Check.due("x at first", 1, book.seed(1));
         Check.due("the table at first", 1, book.table(9999, -1));
@@ -109,6 +110,11 @@ final class InputTests {
             inputIs(wide, 5, estimates[n - 1], variances[n - 1], 4, n - 1, n);
         }
         inputIs(wide, 4, 0, 0, 0, 0, 0);
+        UncertainBook near = new UncertainBook();
+        for (int reading : new int[] {0, -8, -8, 2}) {
+            near.read(1, reading);
+        }
+        inputIs(near, 1, -4, 6, 4, 3, 4);
         UncertainBook below = new UncertainBook();
         for (int reading : new int[] {-1, -2, -2}) {
             below.read(0, reading);

@@ -374,7 +374,10 @@ final class Oracle {
                 int w = widths[input];
                 switch (sorts[input]) {
                     case 1: drawn[input] += wanted(2 * w + 1) - w; break;
-                    case 2: drawn[input] += wanted(w + 1) - w; drawn[input] += wanted(w + 1); break;
+                    case 2:
+                        drawn[input] += wanted(w + 1) - w;
+                        drawn[input] += wanted(w + 1);
+                        break;
                     case 3: drawn[input] += wanted(2) == 0 ? -w : w; break;
                     case 4:
                         List<Integer> own = readings.get(input);
