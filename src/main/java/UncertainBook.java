@@ -185,7 +185,7 @@ public final class UncertainBook {
 
     public int table(int degrees, int factor)
             throws IllegalArgumentException, IllegalStateException {
-        checkRange(degrees, 1, 9999);
+        checkRange(degrees, 1, Coverage.MOST_DEGREES);
         checkRange(factor, NONE, 999);
         if (factor == NONE) {
             coverage.remove(degrees);
@@ -756,7 +756,7 @@ public final class UncertainBook {
 
         int factor(Coverage coverage) {
             // By the sum, not by the degrees: these can be -1 without being NONE.
-            return coverage.factorUpTo(degreesSum == 0 ? Long.MAX_VALUE : degrees());
+            return coverage.factorUpTo(degreesSum == 0 ? Coverage.MOST_DEGREES : degrees());
         }
 
         long statedDoubt(Coverage coverage) {
@@ -768,6 +768,8 @@ public final class UncertainBook {
 
     /** The table of coverage. */
     private static final class Coverage {
+        static final int MOST_DEGREES = 9999;
+
         private final int[] degrees = new int[MOST_FACTORS];
         private final int[] factors = new int[MOST_FACTORS];
         int count;

@@ -22,65 +22,39 @@ final class BudgetTests {
         Check.end();
     }
 
-    private static void budgetIs(UncertainBook book, int model, long... due) {
-        for (int what = 0; what < due.length; what++) {
-            Check.due("budget(" + model + ", " + what + ")", due[what],
-                    book.budget(model, what));
-        }
-    }
-
-    private static void contributionsAre(UncertainBook book, long... due) {
-        for (int input = 0; input < due.length; input++) {
-            Check.due("contribution(0, " + input + ")", due[input],
-                    book.contribution(0, input, false));
-        }
-    }
-
-    private static void sharesAre(UncertainBook book, long... due) {
-        for (int input = 0; input < due.length; input++) {
-            Check.due("the share of " + input, due[input], book.contribution(0, input, true));
-        }
-    }
-
-    private static void ranksAre(UncertainBook book, int... due) {
-        for (int place = 0; place < due.length; place++) {
-            Check.due("ranked(0, " + place + ")", due[place], book.ranked(0, place));
-        }
-    }
-
     private static void aBudget() {
         UncertainBook book = Check.book("a*b-2*c", "7");
         book.shape(0, 5, 1, 6);
         book.shape(1, -4, 2, 12);
         book.shape(2, 100, 3, 3);
         book.shape(3, 100, 3, 99);
-        budgetIs(book, 0, 16 * 12 + 25 * 24 + 4 * 4, 28, -1, 200, 56);
-        contributionsAre(book, 192, 600, 16, 0, 0, 0);
-        sharesAre(book, 23, 74, 1, 0, 0, 0);
-        ranksAre(book, 1, 0, 2, 3, 4, 5, -1, -1);
-        budgetIs(book, 1, 0, 0, -1, 200, 0);
+        Check.budgetIs(book, 0, 16 * 12 + 25 * 24 + 4 * 4, 28, -1, 200, 56);
+        Check.contributionsAre(book, 192, 600, 16, 0, 0, 0);
+        Check.sharesAre(book, 23, 74, 1, 0, 0, 0);
+        Check.ranksAre(book, 1, 0, 2, 3, 4, 5, -1, -1);
+        Check.budgetIs(book, 1, 0, 0, -1, 200, 0);
     }
 
     private static void withCovariances() {
         UncertainBook book = Check.book("2*a-3*b+c");
         book.shape(0, 1, 3, 4);
         book.shape(1, 1, 3, 6);
-        budgetIs(book, 0, 4 * 8 + 9 * 18);
+        Check.budgetIs(book, 0, 4 * 8 + 9 * 18);
         book.together(0, 1, 5);
-        budgetIs(book, 0, 194 - 2 * 6 * 5);
+        Check.budgetIs(book, 0, 194 - 2 * 6 * 5);
         book.together(2, 1, 7);
-        budgetIs(book, 0, 134 - 2 * 3 * 7);
+        Check.budgetIs(book, 0, 134 - 2 * 3 * 7);
         book.together(0, 2, -1);
-        budgetIs(book, 0, 92 - 2 * 2);
+        Check.budgetIs(book, 0, 92 - 2 * 2);
         book.together(0, 5, 9999);
-        budgetIs(book, 0, 88, 9, -1, 200, 18);
-        contributionsAre(book, 32, 162, 0, 0, 0, 0);
-        sharesAre(book, 36, 184, 0, 0, 0, 0);
+        Check.budgetIs(book, 0, 88, 9, -1, 200, 18);
+        Check.contributionsAre(book, 32, 162, 0, 0, 0, 0);
+        Check.sharesAre(book, 36, 184, 0, 0, 0, 0);
         UncertainBook last = Check.book("e*f");
         last.shape(4, 3, 0, 0);
         last.shape(5, -2, 0, 0);
         last.together(5, 4, -10);
-        budgetIs(last, 0, 120, 10, -1, 200, 20);
+        Check.budgetIs(last, 0, 120, 10, -1, 200, 20);
     }
 
     private static void belowZero() {
@@ -88,20 +62,20 @@ final class BudgetTests {
         book.shape(0, 0, 3, 4);
         book.shape(1, 0, 3, 2);
         book.together(0, 1, -8);
-        budgetIs(book, 0, 8 + 2 - 16, -1, -1, 200, -1);
-        sharesAre(book, -133, -33, 0, 0, 0, 0);
-        ranksAre(book, 0, 1, 2, 3, 4, 5);
+        Check.budgetIs(book, 0, 8 + 2 - 16, -1, -1, 200, -1);
+        Check.sharesAre(book, -133, -33, 0, 0, 0, 0);
+        Check.ranksAre(book, 0, 1, 2, 3, 4, 5);
         book.together(0, 1, -5);
-        budgetIs(book, 0, 0, 0, -1, 200, 0);
-        sharesAre(book, 0, 0, 0, 0, 0, 0);
-        contributionsAre(book, 8, 2, 0, 0, 0, 0);
+        Check.budgetIs(book, 0, 0, 0, -1, 200, 0);
+        Check.sharesAre(book, 0, 0, 0, 0, 0, 0);
+        Check.contributionsAre(book, 8, 2, 0, 0, 0, 0);
     }
 
     private static void rootIs(String text, int sort, int width, long variance, long doubt) {
         UncertainBook book = Check.book(text);
         book.shape(0, 0, sort, width);
         book.together(1, 2, -1);
-        budgetIs(book, 0, variance, doubt);
+        Check.budgetIs(book, 0, variance, doubt);
     }
 
     private static void roots() {
@@ -130,7 +104,7 @@ final class BudgetTests {
         book.shape(0, 0, 3, 2);
         book.shape(1, 0, 3, 2);
         book.shape(2, 0, 3, 2);
-        sharesAre(book, 33, 33, 33, 0, 0, 0);
+        Check.sharesAre(book, 33, 33, 33, 0, 0, 0);
         UncertainBook wide = Check.book("1024^3*(a+b)+c+d+e");
         wide.shape(0, 0, 3, 3);
         Check.due("a share that goes round to 0", 0, wide.contribution(0, 0, true));
@@ -139,19 +113,19 @@ final class BudgetTests {
         wide.shape(4, 0, 1, 2);
         wide.together(0, 1, -1);
         wide.together(2, 3, -1);
-        budgetIs(wide, 0, -1, -1, -1, 200, -1);
+        Check.budgetIs(wide, 0, -1, -1, -1, 200, -1);
         Check.due("the least long by -1", Long.MIN_VALUE, wide.contribution(0, 0, true));
         Check.due("another share", -100, wide.contribution(0, 4, true));
     }
 
     private static void ranks() {
         UncertainBook book = Check.book("a+b+c+d+e+f");
-        ranksAre(book, 0, 1, 2, 3, 4, 5, -1);
+        Check.ranksAre(book, 0, 1, 2, 3, 4, 5, -1);
         int[] widths = {4, 8, 4, 20, 2, 8};
         for (int input = 0; input < 6; input++) {
             book.shape(input, 0, 3, widths[input]);
         }
-        ranksAre(book, 3, 1, 5, 0, 2, 4, -1);
+        Check.ranksAre(book, 3, 1, 5, 0, 2, 4, -1);
         Check.due("a far place", -1, book.ranked(0, Integer.MAX_VALUE));
         UncertainBook round = Check.book("9999^4*9999*a+b");
         round.shape(1, 0, 3, 2);
@@ -165,41 +139,35 @@ final class BudgetTests {
         }
     }
 
-    private static void addReadings(UncertainBook book, int input, int... readings) {
-        for (int reading : readings) {
-            book.read(input, reading);
-        }
-    }
-
     private static void degrees() {
         UncertainBook one = Check.book("a");
         one.read(0, 3);
-        budgetIs(one, 0, 0, 0, -1, 200, 0);
+        Check.budgetIs(one, 0, 0, 0, -1, 200, 0);
         one.read(0, 9);
-        budgetIs(one, 0, 9, 3, 1, 200, 6);
+        Check.budgetIs(one, 0, 9, 3, 1, 200, 6);
         one.read(0, 18);
-        budgetIs(one, 0, 19, 4, 2, 200, 8);
+        Check.budgetIs(one, 0, 19, 4, 2, 200, 8);
         one.read(0, -30);
         Check.due("three degrees, by 10000 and 3333", 3, one.budget(0, 2));
         UncertainBook two = Check.book("a+b");
-        addReadings(two, 0, 0, 20);
-        addReadings(two, 1, 0, 30, 60);
-        budgetIs(two, 0, 100 + 300, 20, 10000 / (25 * 25 + 75 * 75 / 2), 200, 40);
+        Check.readings(two, 0, 0, 20);
+        Check.readings(two, 1, 0, 30, 60);
+        Check.budgetIs(two, 0, 100 + 300, 20, 10000 / (25 * 25 + 75 * 75 / 2), 200, 40);
         two.shape(2, 0, 1, 99);
         Check.due("another input's doubt", 10000 / (625 + 2812), two.budget(0, 2));
         UncertainBook little = Check.book("a+50*b");
-        addReadings(little, 0, 0, 4);
+        Check.readings(little, 0, 0, 4);
         little.shape(1, 0, 3, 8);
-        budgetIs(little, 0, 4 + 2500 * 32, 282, -1, 200, 564);
-        sharesAre(little, 0, 99);
+        Check.budgetIs(little, 0, 4 + 2500 * 32, 282, -1, 200, 564);
+        Check.sharesAre(little, 0, 99);
         UncertainBook most = Check.book("a+4*b");
-        addReadings(most, 0, 0, 16);
+        Check.readings(most, 0, 0, 16);
         most.shape(1, 0, 3, 28);
-        sharesAre(most, 1, 98);
-        budgetIs(most, 0, 64 + 16 * 392, 79, 10000);
+        Check.sharesAre(most, 1, 98);
+        Check.budgetIs(most, 0, 64 + 16 * 392, 79, 10000);
         UncertainBook each = Check.book("a+b");
-        addReadings(each, 0, 0, 100, 50);
-        addReadings(each, 1, 0, 90, 60, 20);
+        Check.readings(each, 0, 0, 100, 50);
+        Check.readings(each, 1, 0, 90, 60, 20);
         long first = each.contribution(0, 0, true);
         long second = each.contribution(0, 1, true);
         Check.due("each division by itself", 10000 / (first * first / 2 + second * second / 3),
@@ -208,8 +176,8 @@ final class BudgetTests {
 
     private static void factors() {
         UncertainBook full = Check.book("a", "b", "c");
-        addReadings(full, 0, 0, 4);
-        addReadings(full, 1, 0, 40, 20);
+        Check.readings(full, 0, 0, 4);
+        Check.readings(full, 1, 0, 40, 20);
         full.shape(2, 0, 1, 9);
         full.table(3, 300);
         full.table(2, 400);
@@ -228,24 +196,24 @@ final class BudgetTests {
         Check.due("by NONE without it", 250, full.budget(2, 3));
         full.table(1, -1);
         Check.due("by one degree without it", -1, full.budget(0, 3));
-        budgetIs(full, 0, 4, 2, 1, -1, -1);
+        Check.budgetIs(full, 0, 4, 2, 1, -1, -1);
         full.table(2, -1);
         full.table(3, -1);
         full.table(5, -1);
-        budgetIs(full, 2, 27, 5, -1, -1, -1);
+        Check.budgetIs(full, 2, 27, 5, -1, -1, -1);
         full.table(7, 0);
-        budgetIs(full, 2, 27, 5, -1, 0, 0);
+        Check.budgetIs(full, 2, 27, 5, -1, 0, 0);
     }
 
     private static void degreesThatAreNoneAndNot() {
         UncertainBook book = Check.book("a+b");
-        addReadings(book, 0, 0, 20);
+        Check.readings(book, 0, 0, 20);
         book.shape(1, 0, 0, 0);
         book.together(0, 1, -45);
-        sharesAre(book, 1000, 0);
-        budgetIs(book, 0, 10, 3, 0, -1, -1);
+        Check.sharesAre(book, 1000, 0);
+        Check.budgetIs(book, 0, 10, 3, 0, -1, -1);
         book.together(0, 1, -50);
-        budgetIs(book, 0, 0, 0, -1, 200, 0);
+        Check.budgetIs(book, 0, 0, 0, -1, 200, 0);
     }
 
     private static void statedDoubts() {
@@ -254,7 +222,7 @@ final class BudgetTests {
         int[] factors = {0, 1, 7, 8, 99, 100, 101, 196, 999};
         for (int factor : factors) {
             book.table(1, factor);
-            budgetIs(book, 0, 162, 12, -1, factor, 12 * factor / 100);
+            Check.budgetIs(book, 0, 162, 12, -1, factor, 12 * factor / 100);
         }
         UncertainBook great = Check.book("2^4*2^4*2^4*2^4*2^4*2^4*2^4*2^2*a");
         great.table(1, 999);

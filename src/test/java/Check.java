@@ -84,6 +84,49 @@ final class Check {
         return book;
     }
 
+    /** Adds readings to an input. */
+    static void readings(UncertainBook book, int input, int... readings) {
+        for (int reading : readings) {
+            book.read(input, reading);
+        }
+    }
+
+    /** The numbers of an input, from the estimate on. */
+    static void inputIs(UncertainBook book, int input, int... due) {
+        for (int what = 0; what < due.length; what++) {
+            due("input(" + input + ", " + what + ")", due[what], book.input(input, what));
+        }
+    }
+
+    /** The numbers of a model's budget, from the variance on. */
+    static void budgetIs(UncertainBook book, int model, long... due) {
+        for (int what = 0; what < due.length; what++) {
+            due("budget(" + model + ", " + what + ")", due[what], book.budget(model, what));
+        }
+    }
+
+    /** The contributions of the inputs to model 0, from input 0 on. */
+    static void contributionsAre(UncertainBook book, long... due) {
+        for (int input = 0; input < due.length; input++) {
+            due("contribution(0, " + input + ")", due[input],
+                    book.contribution(0, input, false));
+        }
+    }
+
+    /** The shares of the inputs in model 0, from input 0 on. */
+    static void sharesAre(UncertainBook book, long... due) {
+        for (int input = 0; input < due.length; input++) {
+            due("the share of " + input, due[input], book.contribution(0, input, true));
+        }
+    }
+
+    /** The inputs by their ranks in model 0, from place 0 on. */
+    static void ranksAre(UncertainBook book, int... due) {
+        for (int place = 0; place < due.length; place++) {
+            due("ranked(0, " + place + ")", due[place], book.ranked(0, place));
+        }
+    }
+
     static void tell(String text) {
         wrong++;
         if (wrong <= 40) {

@@ -17,16 +17,10 @@ final class InputTests {
         Check.end();
     }
 
-    private static void inputIs(UncertainBook book, int input, int... due) {
-        for (int what = 0; what < due.length; what++) {
-            Check.due("input(" + input + ", " + what + ")", due[what], book.input(input, what));
-        }
-    }
-
     private static void aNewObject() {
         UncertainBook book = new UncertainBook();
         for (int input = 0; input < 6; input++) {
-            inputIs(book, input, 0, 0, 0, 0, 0);
+            Check.inputIs(book, input, 0, 0, 0, 0, 0);
             for (int other = 0; other < 6; other++) {
                 if (other != input) {
                     Check.due("together at first", 0, book.together(input, other, 0));
@@ -57,16 +51,16 @@ final class InputTests {
         int[] ends = {0, 0, 2, 4, 12, 24, 4802, 4900};
         for (int k = 0; k < widths.length; k++) {
             Check.due("EVEN " + widths[k], even[k], book.shape(0, 999, 1, widths[k]));
-            inputIs(book, 0, 999, even[k], 1, 0, widths[k]);
+            Check.inputIs(book, 0, 999, even[k], 1, 0, widths[k]);
             Check.due("PEAK " + widths[k], peak[k], book.shape(3, -999, 2, widths[k]));
-            inputIs(book, 3, -999, peak[k], 2, 0, widths[k]);
+            Check.inputIs(book, 3, -999, peak[k], 2, 0, widths[k]);
             Check.due("ENDS " + widths[k], ends[k], book.shape(5, -1, 3, widths[k]));
-            inputIs(book, 5, -1, ends[k], 3, 0, widths[k]);
+            Check.inputIs(book, 5, -1, ends[k], 3, 0, widths[k]);
         }
         Check.due("sort 0", 0, book.shape(5, 12, 0, 0));
-        inputIs(book, 5, 12, 0, 0, 0, 0);
-        inputIs(book, 0, 999, 3267, 1, 0, 99);
-        inputIs(book, 1, 0, 0, 0, 0, 0);
+        Check.inputIs(book, 5, 12, 0, 0, 0, 0);
+        Check.inputIs(book, 0, 999, 3267, 1, 0, 99);
+        Check.inputIs(book, 1, 0, 0, 0, 0, 0);
     }
 
     private static void shapesRefused() {
@@ -91,35 +85,35 @@ final class InputTests {
         UncertainBook book = new UncertainBook();
         book.shape(2, 50, 1, 9);
         Check.due("one reading", 0, book.read(2, 7));
-        inputIs(book, 2, 7, 0, 4, 0, 1);
+        Check.inputIs(book, 2, 7, 0, 4, 0, 1);
         Check.due("two readings", 2, book.read(2, 10));
-        inputIs(book, 2, 8, 2, 4, 1, 2);
+        Check.inputIs(book, 2, 8, 2, 4, 1, 2);
         Check.due("three readings", 0, book.read(2, 8));
-        inputIs(book, 2, 8, 0, 4, 2, 3);
+        Check.inputIs(book, 2, 8, 0, 4, 2, 3);
         book.shape(2, 3, 0, 0);
-        inputIs(book, 2, 3, 0, 0, 0, 0);
+        Check.inputIs(book, 2, 3, 0, 0, 0, 0);
         Check.due("a first one again", 0, book.read(2, -3));
         Check.due("a second one again", 0, book.read(2, -4));
-        inputIs(book, 2, -4, 0, 4, 1, 2);
+        Check.inputIs(book, 2, -4, 0, 4, 1, 2);
         UncertainBook wide = new UncertainBook();
         int[] variances = {0, 998001, 443556, 332667, 239520, 199600, 162938, 142571};
         int[] estimates = {999, 0, 333, 0, 199, 0, 142, 0};
         for (int n = 1; n <= 8; n++) {
             int reading = n % 2 == 1 ? 999 : -999;
             Check.due(n + " readings", variances[n - 1], wide.read(5, reading));
-            inputIs(wide, 5, estimates[n - 1], variances[n - 1], 4, n - 1, n);
+            Check.inputIs(wide, 5, estimates[n - 1], variances[n - 1], 4, n - 1, n);
         }
-        inputIs(wide, 4, 0, 0, 0, 0, 0);
+        Check.inputIs(wide, 4, 0, 0, 0, 0, 0);
         UncertainBook near = new UncertainBook();
         for (int reading : new int[] {0, -8, -8, 2}) {
             near.read(1, reading);
         }
-        inputIs(near, 1, -4, 6, 4, 3, 4);
+        Check.inputIs(near, 1, -4, 6, 4, 3, 4);
         UncertainBook below = new UncertainBook();
         for (int reading : new int[] {-1, -2, -2}) {
             below.read(0, reading);
         }
-        inputIs(below, 0, -2, 0, 4, 2, 3);
+        Check.inputIs(below, 0, -2, 0, 4, 2, 3);
     }
 
     private static void readingsRefused() {
@@ -135,7 +129,7 @@ final class InputTests {
         Check.place("read(6)", book, () -> book.read(6, 1000));
         Check.due("a reading after a shape", 0, book.shape(0, 0, 3, 1));
         Check.due("its first one", 0, book.read(0, -999));
-        inputIs(book, 0, -999, 0, 4, 0, 1);
+        Check.inputIs(book, 0, -999, 0, 4, 0, 1);
         Check.due("another input's", 0, book.read(1, 999));
     }
 
@@ -194,7 +188,7 @@ final class InputTests {
     private static void numbers() {
         UncertainBook book = new UncertainBook();
         book.shape(4, 17, 3, 5);
-        inputIs(book, 4, 17, 12, 3, 0, 5);
+        Check.inputIs(book, 4, 17, 12, 3, 0, 5);
         Check.place("input(-1, 0)", book, () -> book.input(-1, 0));
         Check.place("input(6, 5)", book, () -> book.input(6, 5));
         Check.argument("what below", book, () -> book.input(0, -1));

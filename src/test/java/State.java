@@ -1,5 +1,8 @@
 /** All that can be asked of a book without changing it, as one text. */
 final class State {
+    /** Degrees from which on no test tells a factor, so that taking it away only counts. */
+    private static final int DEGREES_NOT_TOLD = 7777;
+
     private State() {
     }
 
@@ -20,6 +23,7 @@ final class State {
         int x = book.seed(0);
         book.seed(x);
         text.append("x ").append(x).append('\n');
+        text.append("factors ").append(book.table(DEGREES_NOT_TOLD, -1)).append('\n');
         for (int model = 0; model < 10; model++) {
             addModel(text, book, model);
         }
