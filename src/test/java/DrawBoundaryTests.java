@@ -3,8 +3,6 @@
  * of the document that names one. What stands in quotes above a test is that sentence.
  */
 final class DrawBoundaryTests {
-    private static final int MODULUS = 65537;
-
     private DrawBoundaryTests() {
     }
 
@@ -29,20 +27,6 @@ final class DrawBoundaryTests {
         firstExceptionOfDraw();
         usedForItsCalls();
         Check.end();
-    }
-
-    private static int next(int x) {
-        return (int) ((75L * x + 74) % MODULUS);
-    }
-
-    /** The x from which the next one is this. */
-    private static int before(int x) {
-        for (int seed = 0; seed < MODULUS; seed++) {
-            if (next(seed) == x) {
-                return seed;
-            }
-        }
-        throw new IllegalArgumentException();
     }
 
     /** The draw from a seed is off by so much in model 0, and by less it in model 1. */
@@ -72,8 +56,8 @@ final class DrawBoundaryTests {
     private static void chanceAtItsEnds() {
         UncertainBook book = Check.book("a");
         book.shape(0, 0, 3, 0);
-        int[] seeds = {0, 1, 65536, 65535, 873, 872, before(0), before(65535)};
-        int[] due = {74, 149, 65536, 65461, next(873), 65474, 0, 65535};
+        int[] seeds = {0, 1, 65536, 65535, 873, 872, Wanted.before(0), Wanted.before(65535)};
+        int[] due = {74, 149, 65536, 65461, Wanted.next(873), 65474, 0, 65535};
         for (int k = 0; k < seeds.length; k++) {
             book.seed(seeds[k]);
             book.draw(0, 1);
@@ -104,7 +88,7 @@ final class DrawBoundaryTests {
                     UncertainBook book = Check.book("7");
                     book.shape(input, 999, sort, width);
                     Check.due("all hit", 50, book.draw(0, 50));
-                    Check.due("x then", after(1, 50 * times[sort - 1]), book.seed(0));
+                    Check.due("x then", Wanted.after(1, 50 * times[sort - 1]), book.seed(0));
                 }
             }
             UncertainBook book = Check.book("7");
@@ -112,17 +96,9 @@ final class DrawBoundaryTests {
                 book.read(input, 100 * n);
                 book.seed(1);
                 Check.due("all hit", 50, book.draw(0, 50));
-                Check.due("x then", after(1, 50), book.seed(0));
+                Check.due("x then", Wanted.after(1, 50), book.seed(0));
             }
         }
-    }
-
-    private static int after(int x, int times) {
-        int then = x;
-        for (int k = 0; k < times; k++) {
-            then = next(then);
-        }
-        return then;
     }
 
     /** "and whether the model has it or not, gets a value, by rising numbers". */
@@ -135,12 +111,12 @@ final class DrawBoundaryTests {
         for (int factor = 0; factor < 200; factor += 20) {
             book.table(1, factor);
             for (int seed = 0; seed < 20; seed++) {
-                drawnIs(book, seed, -9 + after(seed, 5) % 19);
+                drawnIs(book, seed, -9 + Wanted.after(seed, 5) % 19);
             }
         }
         book.seed(9);
         book.draw(0, 1);
-        Check.due("x then", after(9, 5), book.seed(0));
+        Check.due("x then", Wanted.after(9, 5), book.seed(0));
     }
 
     /** A model of one input, and the same the other way round, with a stated doubt for both. */
@@ -156,13 +132,13 @@ final class DrawBoundaryTests {
         for (int factor : new int[] {100, 171, 172, 175, 999}) {
             UncertainBook book = bookOfOne(1, 99, factor);
             for (int x : new int[] {0, 1, 2, 98, 99, 100, 196, 197, 198, 199, 65535, 65536}) {
-                drawnIs(book, before(x), -99 + x % 199);
+                drawnIs(book, Wanted.before(x), -99 + x % 199);
             }
         }
         UncertainBook narrow = bookOfOne(1, 1, 999);
         Check.due("a variance of 0", 0, narrow.budget(0, 4));
         for (int x = 0; x < 6; x++) {
-            drawnIs(narrow, before(x), -1 + x % 3);
+            drawnIs(narrow, Wanted.before(x), -1 + x % 3);
         }
     }
 
@@ -171,13 +147,13 @@ final class DrawBoundaryTests {
         for (int factor : new int[] {50, 100, 175, 249, 250, 999}) {
             UncertainBook book = bookOfOne(2, 10, factor);
             for (int x = 0; x < 44; x++) {
-                drawnIs(book, before(x), -10 + x % 11 + next(x) % 11);
+                drawnIs(book, Wanted.before(x), -10 + x % 11 + Wanted.next(x) % 11);
             }
             drawnIs(book, 65536, -10 + 2 * (65536 % 11));
         }
         UncertainBook narrow = bookOfOne(2, 1, 999);
         for (int x = 0; x < 8; x++) {
-            drawnIs(narrow, before(x), -1 + x % 2 + next(x) % 2);
+            drawnIs(narrow, Wanted.before(x), -1 + x % 2 + Wanted.next(x) % 2);
         }
     }
 
@@ -188,11 +164,11 @@ final class DrawBoundaryTests {
         book.table(1, 200);
         Check.budgetIs(book, 0, 8, 2, -1, 200, 4);
         for (int x : new int[] {0, 1, 2, 3, 65534, 65535, 65536}) {
-            drawnIs(book, before(x), x % 2 == 0 ? 0 : 8);
+            drawnIs(book, Wanted.before(x), x % 2 == 0 ? 0 : 8);
         }
         book.shape(0, -1, 3, 2);
         for (int x : new int[] {0, 1, 2, 3, 65534, 65535, 65536}) {
-            drawnIs(book, before(x), x % 2 == 0 ? 8 : 0);
+            drawnIs(book, Wanted.before(x), x % 2 == 0 ? 8 : 0);
         }
         UncertainBook wide = Check.book("a", "0-a");
         wide.shape(0, 0, 3, 99);
@@ -214,7 +190,7 @@ final class DrawBoundaryTests {
                 book.read(0, readings[n - 1]);
                 int estimate = book.input(0, 0);
                 for (int x = 0; x < n + 1; x++) {
-                    drawnIs(book, before(x), readings[x % n] - estimate);
+                    drawnIs(book, Wanted.before(x), readings[x % n] - estimate);
                 }
                 drawnIs(book, 65536, readings[65536 % n] - estimate);
             }
@@ -261,7 +237,7 @@ final class DrawBoundaryTests {
             long stated = factor / 100;
             Check.due("stated", stated, square.budget(0, 4));
             for (int seed = 0; seed < 12; seed++) {
-                int reading = next(next(seed)) % 3;
+                int reading = Wanted.next(Wanted.next(seed)) % 3;
                 int b = reading == 0 ? -2 : reading == 1 ? 2 : 0;
                 square.seed(seed);
                 Check.due("above by 4 and b", Math.abs(4 + b) <= stated ? 1 : 0,
@@ -301,7 +277,7 @@ final class DrawBoundaryTests {
         for (int draws = 1; draws <= 100; draws += 33) {
             book.seed(1);
             Check.due("none of " + draws, 0, book.draw(0, draws));
-            Check.due("x then", after(1, draws), book.seed(1));
+            Check.due("x then", Wanted.after(1, draws), book.seed(1));
         }
     }
 
@@ -314,7 +290,7 @@ final class DrawBoundaryTests {
         for (int draws = 1; draws <= 100; draws += 33) {
             book.seed(65535);
             Check.due("none of " + draws, 0, book.draw(0, draws));
-            Check.due("x then", after(65535, 2 * draws), book.seed(1));
+            Check.due("x then", Wanted.after(65535, 2 * draws), book.seed(1));
         }
     }
 
@@ -328,16 +304,16 @@ final class DrawBoundaryTests {
         Check.budgetIs(book, 0, 8, 2, -1, 200, 4);
         int all = 0;
         for (int k = 1; k <= 100; k++) {
-            all += Math.abs(-5 + after(1, k) % 11) <= 4 ? 1 : 0;
+            all += Math.abs(-5 + Wanted.after(1, k) % 11) <= 4 ? 1 : 0;
         }
         Check.due("a hundred", all, book.draw(0, 100));
-        Check.due("x then", after(1, 100), book.seed(1));
+        Check.due("x then", Wanted.after(1, 100), book.seed(1));
         int one = 0;
         for (int k = 1; k <= 100; k++) {
             one += book.draw(0, 1);
         }
         Check.due("one, a hundred times", all, one);
-        Check.due("x then", after(1, 100), book.seed(1));
+        Check.due("x then", Wanted.after(1, 100), book.seed(1));
     }
 
     /** A draw is no telling: all but x is as it was. */

@@ -19,18 +19,6 @@ final class DrawTests {
         Check.end();
     }
 
-    private static int next(int x) {
-        return (75 * x + 74) % 65537;
-    }
-
-    private static int after(int x, int times) {
-        int then = x;
-        for (int k = 0; k < times; k++) {
-            then = next(then);
-        }
-        return then;
-    }
-
     private static void seeds() {
         UncertainBook book = new UncertainBook();
         Check.due("at first", 1, book.seed(0));
@@ -57,12 +45,12 @@ final class DrawTests {
             all += times[sort - 1];
             book.seed(65536);
             Check.due("all hit", 3, book.draw(1, 3));
-            Check.due("x after sorts up to " + sort, after(65536, 3 * all), book.seed(0));
+            Check.due("x after sorts up to " + sort, Wanted.after(65536, 3 * all), book.seed(0));
         }
         book.shape(2, 0, 0, 0);
         book.seed(7);
         book.draw(0, 100);
-        Check.due("x with one sort less", after(7, 100 * (all - 2)), book.seed(0));
+        Check.due("x with one sort less", Wanted.after(7, 100 * (all - 2)), book.seed(0));
     }
 
     /** A book of one model that stands for one input, with a stated doubt of so much. */
@@ -83,7 +71,7 @@ final class DrawTests {
                 int x = seed * 1601;
                 int due = 0;
                 for (int k = 0; k < 25; k++) {
-                    x = next(x);
+                    x = Wanted.next(x);
                     due += Math.abs(-9 + x % 19) <= stated ? 1 : 0;
                 }
                 Check.due("EVEN draws", due, book.draw(0, 25));
@@ -101,8 +89,8 @@ final class DrawTests {
             for (int draws = 1; draws <= 100; draws++) {
                 int due = 0;
                 for (int k = 0; k < draws; k++) {
-                    int once = next(x);
-                    x = next(once);
+                    int once = Wanted.next(x);
+                    x = Wanted.next(once);
                     due += Math.abs(-10 + once % 11 + x % 11) <= stated ? 1 : 0;
                 }
                 Check.due("PEAK draws", due, book.draw(0, draws));
@@ -120,7 +108,7 @@ final class DrawTests {
             book.seed(x);
             int below = 3 * -3 + 9 - 10;
             int above = 3 * 7 + 49 - 10;
-            int off = next(x) % 2 == 0 ? below : above;
+            int off = Wanted.next(x) % 2 == 0 ? below : above;
             Check.due("ENDS from " + x, Math.abs(off) <= 43 ? 1 : 0, book.draw(0, 1));
         }
     }
@@ -163,7 +151,7 @@ final class DrawTests {
             int estimate = book.input(0, 0);
             for (int x = 0; x < 40; x++) {
                 book.seed(x);
-                int off = readings[next(x) % n] - estimate;
+                int off = readings[Wanted.next(x) % n] - estimate;
                 Check.due(n + " readings from " + x, Math.abs(off) <= stated ? 1 : 0,
                         book.draw(0, 1));
             }
@@ -181,13 +169,13 @@ final class DrawTests {
         int x = 1;
         int due = 0;
         for (int k = 0; k < 100; k++) {
-            x = next(x);
+            x = Wanted.next(x);
             int a = 1 - 8 + x % 17;
-            x = next(x);
+            x = Wanted.next(x);
             int b = 10 - 6 + x % 7;
-            x = next(x);
+            x = Wanted.next(x);
             b += x % 7;
-            x = next(next(x));
+            x = Wanted.next(Wanted.next(x));
             int f = 3 - 4 + x % 9;
             due += Math.abs(a - b * f - (1 - 30)) <= stated ? 1 : 0;
         }
@@ -211,14 +199,14 @@ final class DrawTests {
         book.shape(0, 0, 1, 0);
         book.table(1, -1);
         Check.due("none without a factor", 0, book.draw(0, 10));
-        Check.due("but they are made", after(1, 10), book.seed(1));
+        Check.due("but they are made", Wanted.after(1, 10), book.seed(1));
         book.table(1, 999);
         Check.due("all with one", 10, book.draw(0, 10));
         book.together(0, 1, -1);
         Check.due("no doubt", -1, book.budget(0, 1));
         book.seed(1);
         Check.due("none without a doubt", 0, book.draw(0, 10));
-        Check.due("but these are made too", after(1, 10), book.seed(1));
+        Check.due("but these are made too", Wanted.after(1, 10), book.seed(1));
     }
 
     private static void drawsRefused() {

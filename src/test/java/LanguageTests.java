@@ -13,7 +13,8 @@ final class LanguageTests {
     private static final String[] RULED_OUT = {"->", "::", "Exact", "catch", "finally", "assert",
         "synchronized", "package ", "float", "double", "Object", "System.out", "String.format",
         "hashCode", "toString(", ".equals(", "static {", "protected", "var ", "Random", "Thread",
-        "java.io", "java.nio", "java.time", "Collections", "HashMap", "Stream"};
+        "java.io", "java.nio", "java.time", "Collections", "HashMap", "Stream", "MAX_VALUE",
+        "MIN_VALUE"};
     private static final Set<String> EXCEPTIONS = Set.of("IllegalStateException",
             "IllegalArgumentException", "IndexOutOfBoundsException");
 
