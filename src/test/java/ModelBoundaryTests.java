@@ -174,7 +174,7 @@ final class ModelBoundaryTests {
         }
     }
 
-    /** "IndexOutOfBoundsException as told (the line stays)", "if there are 8, .. (the line stays)". */
+    /** "as told (the line stays)", "if there are 8, and a new one is told (the line stays)". */
     private static void lineStays() {
         UncertainBook book = Check.book("a", "b");
         Check.type(book, "40-2");
